@@ -13,6 +13,8 @@ public final class PromisesTest {
         newObject();
         come();
         go();
+        goOfTheFirst();
+        goOfSeven();
         goWithShutStall();
         want();
         life();
@@ -182,6 +184,56 @@ public final class PromisesTest {
         due("go(0) of nobody", x.go(0), INVALID);
         due("come after all went", x.come(4, 1), 0);
         due("needs met of the new one", x.trader(0, 6), 0);
+    }
+
+    /** What each trader has moves with the number, and nothing of the one who went is counted. */
+    private static void goOfTheFirst() {
+        begin("3, go, what moves with the numbers");
+        BarterRings x = new BarterRings();
+        x.come(5, 32);
+        x.come(4, 8);
+        x.lot(4);
+        x.day();
+        due("no shut stall", x.count(13), NOT_FOUND);
+        x.come(3, 16);
+        due("barter(1, 2)", x.barter(1, 2), 10);
+        x.come(3, 9);
+        x.go(0);
+        int[][] left = {
+            {4, 0, 3, 0, 3, 0, 1, 0, 1, NOT_FOUND},
+            {3, 0, 4, 1, 2, 0, 1, 0, 0, NOT_FOUND},
+            {3, 9, 3, 0, 3, 0, 0, 1, 0, NOT_FOUND}};
+        for (int trader = 0; trader < 3; trader++) {
+            for (int what = 0; what < 10; what++) {
+                due("trader(" + trader + ", " + what + ")", x.trader(trader, what), left[trader][what]);
+            }
+        }
+        x.go(2);
+        due("needs", x.count(2), 0);
+        due("sound wares", x.count(4), 2);
+        due("wares of the kind 3", x.kind(3, 1), 1);
+        due("who wants the kind 3", x.kind(3, 3), 0);
+        due("who makes the kind 3", x.kind(3, 4), 1);
+        due("stuck traders", x.count(10), 0);
+        CHECKS.due("freshness()", x.freshness(), 5.0 / 2);
+        x.life(3, 1);
+        x.life(4, 1);
+        due("spoilt wares", x.count(5), 1);
+        due("spoilt ones of the kind 4", x.kind(4, 2), 1);
+        CHECKS.due("freshness() of one ware", x.freshness(), 1.0);
+    }
+
+    private static void goOfSeven() {
+        begin("3, go, of seven");
+        BarterRings x = greedy(7);
+        due("go(6)", x.go(6), 0);
+        due("wares of the kind of the one who went", x.kind(0, 1), 1);
+        due("come(3, 4)", x.come(3, 4), 6);
+        due("go(0)", x.go(0), 0);
+        due("traders", x.count(1), 6);
+        due("makes of the last one", x.trader(5, 0), 3);
+        due("wants of the last one", x.trader(5, 1), 4);
+        due("trader(6, 0)", x.trader(6, 0), INVALID);
     }
 
     private static void goWithShutStall() {
@@ -1111,6 +1163,8 @@ public final class PromisesTest {
         begin("27, undo of each change");
         for (int change = 0; change < 12; change++) {
             BarterRings x = ring(3);
+            x.want(1, 13);
+            x.barter(0, 1);
             x.lot(3);
             x.day();
             x.save();
@@ -1188,8 +1242,10 @@ public final class PromisesTest {
         x.life(2, 7);
         x.circle(5);
         x.lot(3);
+        x.want(1, 13);
+        due("barter(0, 1)", x.barter(0, 1), 10);
         x.day();
-        x.barter(0, 1);
+        due("barter(0, 1) again", x.barter(0, 1), 3);
         x.save();
         String before = told(x);
         for (int change = 0; change < 11; change++) {
