@@ -190,7 +190,17 @@ public final class BarterRings {
         }
         history.record(market);
         int before = market.needsMet();
-        doDaysOfPad();
+        stopPlace = NONE;
+        for (int place = 0; place < pad.length && stopPlace == NONE; place++) {
+            char sign = pad.signAt(place);
+            if (sign == 'c') {
+                callMarket(market);
+            } else if (sign == 'd') {
+                market.passDay();
+            } else if (sign == 'x') {
+                doBarterOfPad(place);
+            }
+        }
         pad.length = 0;
         return market.needsMet() - before;
     }
@@ -432,20 +442,6 @@ public final class BarterRings {
         return giver == NONE ? NOT_FOUND : giver;
     }
 
-    private void doDaysOfPad() {
-        stopPlace = NONE;
-        for (int place = 0; place < pad.length && stopPlace == NONE; place++) {
-            char sign = pad.signAt(place);
-            if (sign == 'c') {
-                callMarket(market);
-            } else if (sign == 'd') {
-                market.passDay();
-            } else if (sign == 'x') {
-                doBarterOfPad(place);
-            }
-        }
-    }
-
     private void doBarterOfPad(int place) {
         int one = pad.digitAt(place + 1);
         int other = pad.digitAt(place + 2);
@@ -546,24 +542,21 @@ public final class BarterRings {
         }
 
         boolean hasSoundWare(int trader) {
-            return daysLeft(trader) > 0;
+            return hasWare(trader) && age[trader] < life[ware[trader]];
         }
 
         /** In how many days the ware is spoilt; 0 if it is, or if there is none. */
         int daysLeft(int trader) {
-            return hasWare(trader) ? Math.max(0, life[ware[trader]] - age[trader]) : 0;
+            return hasSoundWare(trader) ? life[ware[trader]] - age[trader] : 0;
         }
 
         private boolean wantsWareOf(int taker, int giver) {
             return hasWare(giver) && has(taker) && holds(wants[taker], ware[giver]);
         }
 
-        private boolean mayBarter(int trader) {
-            return trader != shut && hasSoundWare(trader);
-        }
-
         boolean canTake(int taker, int giver) {
-            return taker != giver && mayBarter(taker) && mayBarter(giver) && wantsWareOf(taker, giver);
+            return taker != giver && taker != shut && giver != shut
+                    && hasSoundWare(taker) && hasSoundWare(giver) && wantsWareOf(taker, giver);
         }
 
         int giversOf(int taker) {

@@ -27,6 +27,10 @@ public final class LanguageTest {
     private static final String[] RULED_OUT = {
         "->", "::", "\\btry\\b", "\\bcatch\\b", "\\bfinally\\b", "\\bthrow\\b", "\\bsynchronized\\b", "\\bassert\\b",
         "\\bpackage\\b", "\\bequals\\b", "\\bhashCode\\b", "\\btoString\\b", "Exact\\b", "\\bObject\\b", "\\bprintln\\b"};
+    private static final Set<String> LIBRARY = Set.of(
+        "System.arraycopy(java.lang.Object,int,java.lang.Object,int,int)", "Arrays.fill(int[],int)",
+        "Math.max(int,int)", "Math.min(int,int)", "Integer.bitCount(int)", "Object.new");
+    private static final int DEEPEST_CALL = 8;
     private static final int OBJECTS = 200;
     private static final int BYTES_OF_AN_OBJECT = 8000;
 
@@ -37,6 +41,7 @@ public final class LanguageTest {
         classes();
         if (args.length > 0) {
             source(Files.readString(Path.of(args[0])));
+            calls(args[0]);
         }
         rowsMadeOnce();
         CHECKS.end();
@@ -116,6 +121,17 @@ public final class LanguageTest {
                 CHECKS.tell(line - from < 60, "the method at line " + (from + 1) + " is too long");
                 from = -1;
             }
+        }
+    }
+
+    private static void calls(String file) throws IOException {
+        CHECKS.begin("the calls");
+        CallDepth calls = new CallDepth(file);
+        List<String> deepest = calls.deepest();
+        CHECKS.tell(deepest.size() <= DEEPEST_CALL, "calls go too deep: " + deepest);
+        CHECKS.tell(deepest.size() > 1, "no calls were read");
+        for (String called : calls.outside()) {
+            CHECKS.tell(LIBRARY.contains(called), "a call of " + called);
         }
     }
 

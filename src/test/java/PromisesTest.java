@@ -1,9 +1,5 @@
 /** Each promise of the document with ordinary inputs, the edges that it names, and wrong inputs. */
-public final class PromisesTest {
-    private static final int INVALID = BarterRings.INVALID_ARGUMENT;
-    private static final int NOT_POSSIBLE = BarterRings.NOT_POSSIBLE;
-    private static final int LIMIT = BarterRings.LIMIT_REACHED;
-    private static final int NOT_FOUND = BarterRings.NOT_FOUND;
+public final class PromisesTest extends Markets {
     private static final int[] FAR_OFF = {Integer.MIN_VALUE, -1000000, -2, -1, 1000000, Integer.MAX_VALUE};
 
     private static final Checks CHECKS = new Checks("PromisesTest");
@@ -57,41 +53,6 @@ public final class PromisesTest {
 
     private static void begin(String promise) {
         CHECKS.begin(promise);
-    }
-
-    // ---- markets that the checks begin with
-
-    /** The trader 0 has the kind 0 and wants 1, the trader 1 the other way round. */
-    private static BarterRings pair() {
-        BarterRings x = new BarterRings();
-        x.come(0, 2);
-        x.come(1, 1);
-        return x;
-    }
-
-    /** Each of the traders has a kind of its own and wants that of the next one, the last one the first's. */
-    private static BarterRings ring(int traders) {
-        BarterRings x = new BarterRings();
-        for (int trader = 0; trader < traders; trader++) {
-            x.come(trader, 1 << (trader + 1) % traders);
-        }
-        return x;
-    }
-
-    /** Traders with the kinds 0 to 5 in turn, each of whom wants all kinds. */
-    private static BarterRings greedy(int traders) {
-        BarterRings x = new BarterRings();
-        for (int trader = 0; trader < traders; trader++) {
-            x.come(trader % 6, 63);
-        }
-        return x;
-    }
-
-    private static void write(BarterRings x, String text) {
-        x.clear();
-        for (int place = 0; place < text.length(); place++) {
-            x.append(text.charAt(place));
-        }
     }
 
     // ---- promises
@@ -1192,25 +1153,6 @@ public final class PromisesTest {
             case 10: write(x, "ddddcx01"); x.days(); break;
             default: x.restore(); break;
         }
-    }
-
-    /** All that undo and restore bring back, but the number of states. */
-    private static String told(BarterRings x) {
-        StringBuilder all = new StringBuilder();
-        for (int what = 0; what < 14; what++) {
-            all.append(x.count(what)).append(' ');
-        }
-        for (int kind = 0; kind < 6; kind++) {
-            for (int what = 0; what < 6; what++) {
-                all.append(x.kind(kind, what)).append(' ');
-            }
-        }
-        for (int trader = 0; trader < x.count(1); trader++) {
-            for (int what = 0; what < 10; what++) {
-                all.append(x.trader(trader, what)).append(' ');
-            }
-        }
-        return all.toString();
     }
 
     private static void save() {
