@@ -1178,9 +1178,28 @@ public final class PromisesTest extends Markets {
 
     private static void restore() {
         begin("29, restore");
+        BarterRings none = ring(3);
+        due("restore() of nothing", none.restore(), NOT_POSSIBLE);
+        due("is no change", none.count(15), 3);
+        for (int change = 0; change < 11; change++) {
+            BarterRings x = saved();
+            String before = told(x);
+            doChange(x, change);
+            due("restore()", x.restore(), 1);
+            CHECKS.tell(told(x).equals(before), "restore after the change " + change + " left " + told(x) + ", due is " + before);
+            due("the history goes on", x.count(15), 4);
+        }
+        BarterRings x = saved();
+        x.day();
+        x.restore();
+        due("undo() of restore()", x.undo(), 3);
+        due("the day before it", x.count(0), 2);
+        due("the snapshot stays", x.restore(), 1);
+    }
+
+    /** A market with a snapshot in which everything is otherwise than at first. */
+    private static BarterRings saved() {
         BarterRings x = ring(3);
-        due("restore() of nothing", x.restore(), NOT_POSSIBLE);
-        due("is no change", x.count(15), 3);
         x.life(2, 7);
         x.circle(5);
         x.lot(3);
@@ -1189,17 +1208,6 @@ public final class PromisesTest extends Markets {
         x.day();
         due("barter(0, 1) again", x.barter(0, 1), 3);
         x.save();
-        String before = told(x);
-        for (int change = 0; change < 11; change++) {
-            doChange(x, change);
-            due("restore()", x.restore(), 1);
-            CHECKS.tell(told(x).equals(before), "restore after the change " + change + " left " + told(x) + ", due is " + before);
-            due("the history goes on", x.count(15), 4);
-        }
-        x.day();
-        x.restore();
-        due("undo() of restore()", x.undo(), 3);
-        due("the day before it", x.count(0), 2);
-        due("the snapshot stays", x.restore(), 1);
+        return x;
     }
 }
