@@ -1,13 +1,9 @@
-import com.sun.source.tree.CompilationUnitTree;
 import com.sun.source.tree.MethodInvocationTree;
 import com.sun.source.tree.MethodTree;
 import com.sun.source.tree.NewClassTree;
 import com.sun.source.tree.Tree;
-import com.sun.source.util.JavacTask;
 import com.sun.source.util.TreePathScanner;
 import com.sun.source.util.Trees;
-import java.io.IOException;
-import java.nio.file.Path;
 import java.util.ArrayList;
 import java.util.List;
 import java.util.Map;
@@ -16,9 +12,6 @@ import java.util.TreeMap;
 import java.util.TreeSet;
 import javax.lang.model.element.Element;
 import javax.lang.model.element.ElementKind;
-import javax.tools.JavaCompiler;
-import javax.tools.StandardJavaFileManager;
-import javax.tools.ToolProvider;
 
 /** Reads from a source which of its methods call which, how deep those calls go, and what they call outside. */
 final class CallDepth {
@@ -27,19 +20,8 @@ final class CallDepth {
     private final Map<String, Set<String>> reachedFrom = new TreeMap<>();
     private final Map<String, List<String>> deepestFrom = new TreeMap<>();
 
-    CallDepth(String file) throws IOException {
-        JavaCompiler compiler = ToolProvider.getSystemJavaCompiler();
-        try (StandardJavaFileManager files = compiler.getStandardFileManager(null, null, null)) {
-            JavacTask task = (JavacTask) compiler.getTask(null, files, null, List.of("-proc:none"), null,
-                files.getJavaFileObjects(Path.of(file)));
-            List<CompilationUnitTree> units = new ArrayList<>();
-            task.parse().forEach(units::add);
-            task.analyze();
-            Trees trees = Trees.instance(task);
-            for (CompilationUnitTree unit : units) {
-                new CallReader(trees).scan(unit, null);
-            }
-        }
+    CallDepth(ParsedSource source) {
+        new CallReader(source.trees).scan(source.unit, null);
         for (Set<String> called : callsOf.values()) {
             outside.addAll(called);
             called.retainAll(callsOf.keySet());
@@ -64,6 +46,17 @@ final class CallDepth {
             deepest = longer(deepest, deepestFrom(method));
         }
         return deepest;
+    }
+
+    /** The methods that call themselves, or that call one another. */
+    Set<String> recursive() {
+        Set<String> recursive = new TreeSet<>();
+        for (String method : callsOf.keySet()) {
+            if (reachedFrom.get(method).contains(method)) {
+                recursive.add(method);
+            }
+        }
+        return recursive;
     }
 
     private void reach(String from, Set<String> reached) {

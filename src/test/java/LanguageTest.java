@@ -30,6 +30,9 @@ public final class LanguageTest {
     private static final Set<String> LIBRARY = Set.of(
         "System.arraycopy(java.lang.Object,int,java.lang.Object,int,int)", "Arrays.fill(int[],int)",
         "Math.max(int,int)", "Math.min(int,int)", "Integer.bitCount(int)", "Object.new");
+    /** Each taker is one level, so that there are at most 8. */
+    private static final Set<String> RECURSIONS = Set.of(
+        "TakerSearch.chooseGiver(int,int,int)", "TakerSearch.goOn(int,int,int,int)");
     private static final int DEEPEST_CALL = 8;
     private static final int OBJECTS = 200;
     private static final int BYTES_OF_AN_OBJECT = 8000;
@@ -41,7 +44,7 @@ public final class LanguageTest {
         classes();
         if (args.length > 0) {
             source(Files.readString(Path.of(args[0])));
-            calls(args[0]);
+            parsed(args[0]);
         }
         rowsMadeOnce();
         CHECKS.end();
@@ -124,9 +127,16 @@ public final class LanguageTest {
         }
     }
 
-    private static void calls(String file) throws IOException {
-        CHECKS.begin("the calls");
-        CallDepth calls = new CallDepth(file);
+    private static void parsed(String file) throws IOException {
+        CHECKS.begin("what the compiler reads");
+        ParsedSource source = new ParsedSource(file);
+        SourceFaults shape = new SourceFaults(source);
+        for (String fault : shape.faults()) {
+            CHECKS.tell(false, fault);
+        }
+        CHECKS.tell(shape.looked() > 100, "not much was read: " + shape.looked());
+        CallDepth calls = new CallDepth(source);
+        CHECKS.tell(calls.recursive().equals(RECURSIONS), "these call themselves: " + calls.recursive());
         List<String> deepest = calls.deepest();
         CHECKS.tell(deepest.size() <= DEEPEST_CALL, "calls go too deep: " + deepest);
         CHECKS.tell(deepest.size() > 1, "no calls were read");
